@@ -54,28 +54,19 @@ public final class KnotColours {
     // ---- tables
 
     public int trivial(int size) {
-        // this is the linear table in which y counts for nothing
-        return linear(size, 1);
+        return isSize(size) ? makeLinear(size, 1) : BAD_VALUE;
     }
 
     public int dihedral(int size) {
-        if (size < 1 || size > MOST_ELEMENTS) {
-            return BAD_VALUE;
-        }
-        saveState();
-        int previous = table.count;
-        table.fillLinear(size, -1);
-        return previous;
+        // -1 is no factor that a caller may give, but 2 * y - x is linear with it
+        return isSize(size) ? makeLinear(size, -1) : BAD_VALUE;
     }
 
     public int linear(int size, int factor) {
-        if (size < 1 || size > MOST_ELEMENTS || factor < 0 || factor > MOST_FACTOR) {
+        if (!isSize(size) || factor < 0 || factor > MOST_FACTOR) {
             return BAD_VALUE;
         }
-        saveState();
-        int previous = table.count;
-        table.fillLinear(size, factor);
-        return previous;
+        return makeLinear(size, factor);
     }
 
     public int transpositions(int points) {
@@ -376,6 +367,17 @@ public final class KnotColours {
         long hash = hashTable(HASH_START);
         hash = hashDiagram(hash);
         return hashColourings(hash);
+    }
+
+    private static boolean isSize(int size) {
+        return size >= 1 && size <= MOST_ELEMENTS;
+    }
+
+    private int makeLinear(int size, int factor) {
+        saveState();
+        int previous = table.count;
+        table.fillLinear(size, factor);
+        return previous;
     }
 
     private void saveState() {

@@ -229,6 +229,7 @@ public final class TableTest {
         violations(with("111111", "022222", "233333", "344444", "455555", "500000"), "a cycle and a swap", 0, NONE, 0);
         violations(with("001", "110", "222"), "a late swap of 0 and 1", NONE, NONE, NONE);
         violations(with("021", "210", "100"), "dihedral(3) with a fault", 2, 2, 1);
+        violations(with("100", "211", "122"), "one without the product 0", 0, 0, 0);
         for (int axiom : new int[] {0, 4, -1, LOW, HIGH}) {
             check.due("11: violation(" + axiom + ")", k.violation(axiom), NO_SUCH);
         }
@@ -336,6 +337,7 @@ public final class TableTest {
         check.due("17: translations() of dihedral(4)", k.translations(), 2);
         k.linear(6, 0);
         check.due("17: translations() of linear(6, 0)", k.translations(), 6);
+        check.due("17: translations() that differ at 0 alone", with("01", "11").translations(), 2);
     }
 
     private static void innerGroup() {
@@ -374,5 +376,6 @@ public final class TableTest {
         check.due("19: automorphisms() of linear(4, 2)", k.automorphisms(), 8);
         KnotColours all = with("111111", "022222", "233333", "344444", "455555", "500000");
         check.due("19: automorphisms() of one with the identity alone", all.automorphisms(), 1);
+        check.due("19: automorphisms() of 0 * 0 = 1", with("100", "000", "000").automorphisms(), 1);
     }
 }
