@@ -14,6 +14,7 @@ public final class ColouringTest {
         colouringsAlike();
         colouringsUsing();
         colour();
+        tenCrossings();
         largest();
         check.end();
     }
@@ -137,6 +138,22 @@ public final class ColouringTest {
         }
         check.due("36: colour(0, 0) of a new object", new KnotColours().colour(0, 0), 0);
         check.due("36: colour(1, 0) of a new object", new KnotColours().colour(1, 0), NO_SUCH);
+    }
+
+    private static void tenCrossings() {
+        KnotColours k = new KnotColours();
+        k.dihedral(3);
+        k.newDiagram(4);
+        for (int crossing = 0; crossing < 9; crossing++) {
+            k.addCrossing(0, 1, 2, 1);
+        }
+        check.due("32: nine crossings that demand the same", k.colourings(), 27);
+        k.addCrossing(0, 0, 1, 1);
+        check.due("32: a tenth crossing that demands more", k.colourings(), 9);
+        check.due("33: colouringsWith(3, 2) of ten crossings", k.colouringsWith(3, 2), 3);
+        check.due("34: colouringsAlike(0, 1) of ten crossings", k.colouringsAlike(0, 1), 9);
+        check.due("35: colouringsUsing(2) of ten crossings", k.colouringsUsing(2), 6);
+        check.due("36: colour(8, 2) of ten crossings", k.colour(8, 2), 2);
     }
 
     private static void largest() {

@@ -225,6 +225,10 @@ public final class DiagramTest {
         }
         k.newDiagram(7);
         check.due("29: components() of 7 circles", k.components(), 7);
+        KnotColours joined = with(3, "0,0,1+", "0,1,0+");
+        check.due("29: components() of a joined pair and a circle", joined.components(), 2);
+        joined.newDiagram(3);
+        check.due("29: components() of three circles then", joined.components(), 3);
         check.due("29: an open arc", with(2, "0,0,1+").components(), NONE);
         check.due("29: an arc that is in-arc twice", with(1, "0,0,0+", "0,0,0+").components(), NONE);
         check.due("29: an arc that is in-arc and out-arc twice",
@@ -268,6 +272,8 @@ public final class DiagramTest {
         check.due("31: linking(0, 1) one way", oneWay.linking(0, 1), 99);
         check.due("31: linking(1, 0) one way", oneWay.linking(1, 0), 100);
         check.due("31: linking(0, 0) one way", oneWay.linking(0, 0), 101);
+        oneWay.newDiagram(2);
+        check.due("31: linking(0, 1) of two circles then", oneWay.linking(0, 1), 100);
         KnotColours open = with(2, "0,0,1+");
         check.due("31: linking(0, 1) of an open diagram", open.linking(0, 1), NONE);
         check.due("31: linking(0, 2) of an open diagram", open.linking(0, 2), NO_SUCH);
