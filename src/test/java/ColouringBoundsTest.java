@@ -77,12 +77,12 @@ public final class ColouringBoundsTest {
             s.due("colouringsWith(1, 0)", k.colouringsWith(1, 0), 1);
             s.due("colouringsWith(2, 0)", k.colouringsWith(2, 0), 2);
         });
-        s.test("terms: 'each crossing demands', the last of ten too", () -> {
+        s.test("terms: 'each crossing with the sign 1 demands o = i * c', the last of ten too", () -> {
             s.due("colourings() of nine", with("01 10", "2:" + Sentences.times(9, "0,0,0-")).colourings(), 2);
             s.due("colourings() of ten",
                     with("01 10", "2:" + Sentences.times(9, "0,0,0-") + " 1,1,1+").colourings(), 1);
         });
-        s.test("terms: 'each crossing demands', where the highest arc is over, in and out", () -> {
+        s.test("terms: 'each crossing with the sign 1 demands o = i * c', where the highest arc is over, in and out", () -> {
             s.due("colourings()", with("00 11", "7: 6,0,1+").colourings(), 64);
             s.due("colourings()", with("00 11", "7: 0,6,1+").colourings(), 64);
             s.due("colourings()", with("00 11", "7: 0,1,6+").colourings(), 64);
@@ -134,19 +134,19 @@ public final class ColouringBoundsTest {
         });
         s.test("33: 'Returns the number', all of one element", () ->
             s.due("colouringsWith(0, 0)", new KnotColours().colouringsWith(0, 0), 1));
-        s.test("33: 'arc: an arc; colour: an element', the lowest and the highest", () -> {
+        s.test("33: 'arc: an arc' and 'colour: an element', the lowest and the highest", () -> {
             s.due("colouringsWith(0, 0)", free().colouringsWith(0, 0), MOST / 6);
             s.due("colouringsWith(0, 5)", free().colouringsWith(0, 5), MOST / 6);
             s.due("colouringsWith(6, 0)", free().colouringsWith(6, 0), MOST / 6);
             s.due("colouringsWith(6, 5)", free().colouringsWith(6, 5), MOST / 6);
         });
-        s.refused("33: 'NO_SUCH if there is no such arc', too small", ColouringBoundsTest::trefoil,
+        s.refused("33: 'NO_SUCH if there is no such arc or element', an arc too small", ColouringBoundsTest::trefoil,
                 NO_SUCH, Sentences.below(0), (k, arc) -> k.colouringsWith(arc, 1));
-        s.refused("33: 'NO_SUCH if there is no such arc', too large", ColouringBoundsTest::trefoil,
+        s.refused("33: 'NO_SUCH if there is no such arc or element', an arc too large", ColouringBoundsTest::trefoil,
                 NO_SUCH, Sentences.above(2), (k, arc) -> k.colouringsWith(arc, 1));
-        s.refused("33: 'NO_SUCH if there is no such element', too small", ColouringBoundsTest::trefoil,
+        s.refused("33: 'NO_SUCH if there is no such arc or element', an element too small", ColouringBoundsTest::trefoil,
                 NO_SUCH, Sentences.below(0), (k, colour) -> k.colouringsWith(1, colour));
-        s.refused("33: 'NO_SUCH if there is no such element', too large", ColouringBoundsTest::trefoil,
+        s.refused("33: 'NO_SUCH if there is no such arc or element', an element too large", ColouringBoundsTest::trefoil,
                 NO_SUCH, Sentences.above(2), (k, colour) -> k.colouringsWith(1, colour));
         s.refused("33: 'NO_SUCH if there is no such arc or element', an arc that is an element only",
                 k -> { k.trivial(6); k.newDiagram(2); },
@@ -166,7 +166,7 @@ public final class ColouringBoundsTest {
             s.due("colouringsAlike(0, 0)", none().colouringsAlike(0, 0), 0);
             s.due("colouringsAlike(0, 1)", with("11 00", "2: 0,0,1+").colouringsAlike(0, 1), 0);
         });
-        s.test("34: 'first: an arc; second: an arc', the lowest and the highest, in both orders", () -> {
+        s.test("34: 'first: an arc' and 'second: an arc', the lowest and the highest, in both orders", () -> {
             s.due("colouringsAlike(0, 6)", free().colouringsAlike(0, 6), MOST / 6);
             s.due("colouringsAlike(6, 0)", free().colouringsAlike(6, 0), MOST / 6);
         });
@@ -239,18 +239,18 @@ public final class ColouringBoundsTest {
             s.due("colour(123456, 0)", free().colour(123456, 0), 2);
             s.due("colour(123456, 6)", free().colour(123456, 6), 0);
         });
-        s.refused("36: 'NO_SUCH if there is no such colouring', too small", ColouringBoundsTest::trefoil,
+        s.refused("36: 'NO_SUCH if there is no such colouring or arc', an index too small", ColouringBoundsTest::trefoil,
                 NO_SUCH, Sentences.below(0), (k, index) -> k.colour(index, 0));
-        s.refused("36: 'NO_SUCH if there is no such colouring', too large", ColouringBoundsTest::trefoil,
+        s.refused("36: 'NO_SUCH if there is no such colouring or arc', an index too large", ColouringBoundsTest::trefoil,
                 NO_SUCH, Sentences.above(8), (k, index) -> k.colour(index, 0));
-        s.refused("36: 'NO_SUCH if there is no such colouring', behind the most that can be",
+        s.refused("36: 'NO_SUCH if there is no such colouring or arc', an index behind the most that can be",
                 k -> { k.trivial(6); k.newDiagram(7); },
                 NO_SUCH, Sentences.above(MOST - 1), (k, index) -> k.colour(index, 6));
-        s.refused("36: 'NO_SUCH if there is no such colouring', none at all", ColouringBoundsTest::none,
+        s.refused("36: 'NO_SUCH if there is no such colouring or arc', no colouring at all", ColouringBoundsTest::none,
                 NO_SUCH, new int[] {-1, 0, 1}, (k, index) -> k.colour(index, 0));
-        s.refused("36: 'NO_SUCH if there is no such arc', too small", ColouringBoundsTest::trefoil,
+        s.refused("36: 'NO_SUCH if there is no such colouring or arc', an arc too small", ColouringBoundsTest::trefoil,
                 NO_SUCH, Sentences.below(0), (k, arc) -> k.colour(0, arc));
-        s.refused("36: 'NO_SUCH if there is no such arc', too large", ColouringBoundsTest::trefoil,
+        s.refused("36: 'NO_SUCH if there is no such colouring or arc', an arc too large", ColouringBoundsTest::trefoil,
                 NO_SUCH, Sentences.above(2), (k, arc) -> k.colour(0, arc));
         s.refused("36: 'NO_SUCH if there is no such colouring or arc', neither", ColouringBoundsTest::trefoil,
                 NO_SUCH, new int[] {-1, 9}, (k, wrong) -> k.colour(wrong, wrong));

@@ -262,12 +262,12 @@ public final class DiagramBoundsTest {
             s.due("kink(0, -1)", k.kink(0, -1), 2);
             diagram(k, "3: 0,2,1+ 0,0,2-");
         });
-        s.test("24: 'LIMIT if there are 7 arcs', not yet 6", () -> {
+        s.test("24: 'LIMIT if there are 7 arcs or 10 crossings', not yet with 6 arcs", () -> {
             KnotColours k = with("6:");
             s.due("kink(5, 1)", k.kink(5, 1), 6);
             diagram(k, "7: 5,5,6+");
         });
-        s.test("24: 'LIMIT if there are 10 crossings', not yet 9", () -> {
+        s.test("24: 'LIMIT if there are 7 arcs or 10 crossings', not yet with 9 crossings", () -> {
             KnotColours k = with(NINE);
             s.due("kink(0, 1)", k.kink(0, 1), 3);
             diagram(k, "4:" + Sentences.times(9, "0,1,2-") + " 0,0,3+");
@@ -286,9 +286,9 @@ public final class DiagramBoundsTest {
                 NO_SUCH, Sentences.above(2), (k, arc) -> k.kink(arc, 1));
         s.refused("24: 'BAD_VALUE if sign is neither 1 nor -1'", made(TREFOIL),
                 BAD_VALUE, NO_SIGNS, (k, sign) -> k.kink(0, sign));
-        s.refused("24: 'LIMIT if there are 7 arcs'", made("7: 0,1,2+"),
+        s.refused("24: 'LIMIT if there are 7 arcs or 10 crossings', 7 arcs", made("7: 0,1,2+"),
                 LIMIT, new int[] {0, 6}, (k, arc) -> k.kink(arc, 1));
-        s.refused("24: 'LIMIT if there are 10 crossings'", made(TEN),
+        s.refused("24: 'LIMIT if there are 7 arcs or 10 crossings', 10 crossings", made(TEN),
                 LIMIT, new int[] {0, 2}, (k, arc) -> k.kink(arc, -1));
         s.refused("24: 'LIMIT if there are 7 arcs or 10 crossings', both", made("7:" + Sentences.times(10, "0,1,2-")),
                 LIMIT, new int[] {0, 6}, (k, arc) -> k.kink(arc, 1));
@@ -327,7 +327,7 @@ public final class DiagramBoundsTest {
             s.due("poke(0, 1)", k.poke(0, 1), 4);
             diagram(k, "4: 0,1,1+ 1,3,0+ 1,0,2+ 1,2,3-");
         });
-        s.test("25: 'arc: the arc; over: the other arc', the lowest and the highest", () -> {
+        s.test("25: 'arc: the arc' and 'over: the other arc', the lowest and the highest", () -> {
             KnotColours k = with("5:");
             s.due("poke(0, 4)", k.poke(0, 4), 7);
             diagram(k, "7: 4,0,5+ 4,5,6-");
@@ -335,12 +335,12 @@ public final class DiagramBoundsTest {
             s.due("poke(4, 0)", k.poke(4, 0), 7);
             diagram(k, "7: 0,4,5+ 0,5,6-");
         });
-        s.test("25: 'LIMIT if there are more than 5 arcs', not yet 5", () -> {
+        s.test("25: 'LIMIT if there are more than 5 arcs or more than 8 crossings', not yet with 5 arcs", () -> {
             KnotColours k = with("5: 0,1,2+");
             s.due("poke(1, 4)", k.poke(1, 4), 7);
             diagram(k, "7: 0,6,2+ 4,1,5+ 4,5,6-");
         });
-        s.test("25: 'LIMIT if there are more than 8 crossings', not yet 8", () -> {
+        s.test("25: 'LIMIT if there are more than 5 arcs or more than 8 crossings', not yet with 8 crossings", () -> {
             KnotColours k = with("3:" + Sentences.times(8, "0,1,2-"));
             s.due("poke(0, 2)", k.poke(0, 2), 5);
             diagram(k, "5:" + Sentences.times(8, "0,1,2-") + " 2,0,3+ 2,3,4-");
@@ -361,13 +361,13 @@ public final class DiagramBoundsTest {
                 NO_SUCH, Sentences.below(0), (k, over) -> k.poke(0, over));
         s.refused("25: 'NO_SUCH if there is no such arc', over too large, also the arcs that would be new", made(TREFOIL),
                 NO_SUCH, Sentences.above(2), (k, over) -> k.poke(0, over));
-        s.refused("25: 'LIMIT if there are more than 5 arcs', 6", made("6: 0,1,2+"),
+        s.refused("25: 'LIMIT if there are more than 5 arcs or more than 8 crossings', 6 arcs", made("6: 0,1,2+"),
                 LIMIT, new int[] {0, 5}, (k, arc) -> k.poke(arc, 0));
-        s.refused("25: 'LIMIT if there are more than 5 arcs', 7", made("7:"),
+        s.refused("25: 'LIMIT if there are more than 5 arcs or more than 8 crossings', 7 arcs", made("7:"),
                 LIMIT, new int[] {0, 6}, (k, arc) -> k.poke(arc, 0));
-        s.refused("25: 'LIMIT if there are more than 8 crossings', 9", made(NINE),
+        s.refused("25: 'LIMIT if there are more than 5 arcs or more than 8 crossings', 9 crossings", made(NINE),
                 LIMIT, new int[] {0, 2}, (k, arc) -> k.poke(arc, 0));
-        s.refused("25: 'LIMIT if there are more than 8 crossings', 10", made(TEN),
+        s.refused("25: 'LIMIT if there are more than 5 arcs or more than 8 crossings', 10 crossings", made(TEN),
                 LIMIT, new int[] {0, 2}, (k, arc) -> k.poke(0, arc));
         s.refused("25: 'LIMIT if there are more than 5 arcs or more than 8 crossings', both",
                 made("6:" + Sentences.times(9, "0,1,2-")), LIMIT, new int[] {0, 5}, (k, arc) -> k.poke(arc, arc));
@@ -505,7 +505,7 @@ public final class DiagramBoundsTest {
             s.due("linking(0, 0)", k.linking(0, 0), 100);
             s.due("linking(1, 1)", k.linking(1, 1), 100);
         });
-        s.test("31: 'first: an arc; second: an arc', the lowest and the highest", () -> {
+        s.test("31: 'first: an arc' and 'second: an arc', the lowest and the highest", () -> {
             KnotColours k = with("7: 0,6,6+");
             s.due("linking(0, 6)", k.linking(0, 6), 101);
             s.due("linking(6, 0)", k.linking(6, 0), 100);

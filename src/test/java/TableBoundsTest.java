@@ -291,12 +291,12 @@ public final class TableBoundsTest {
     }
 
     private static void setProduct() {
-        s.test("6: 'x: an element; y: an element; product: an element', the lowest", () -> {
+        s.test("6: 'x: an element', 'y: an element' and 'the new product x * y, an element', the lowest", () -> {
             KnotColours k = with("11 11");
             s.due("setProduct(0, 0, 0)", k.setProduct(0, 0, 0), 1);
             table(k, "01 11");
         });
-        s.test("6: 'x: an element; y: an element; product: an element', the highest", () -> {
+        s.test("6: 'x: an element', 'y: an element' and 'the new product x * y, an element', the highest", () -> {
             KnotColours k = with(TRIVIAL_SIX);
             s.due("setProduct(0, 5, 5)", k.setProduct(0, 5, 5), 0);
             s.due("setProduct(5, 5, 0)", k.setProduct(5, 5, 0), 5);
@@ -319,19 +319,19 @@ public final class TableBoundsTest {
             s.due("setProduct(5, 0, 1)", k.setProduct(5, 0, 1), 1);
             table(k, DIHEDRAL_SIX);
         });
-        s.refused("6: 'NO_SUCH if there is no such element x', too small", k -> k.dihedral(5),
+        s.refused("6: 'NO_SUCH if there is no such element x, y or product', x too small", k -> k.dihedral(5),
                 NO_SUCH, Sentences.below(0), (k, x) -> k.setProduct(x, 0, 1));
-        s.refused("6: 'NO_SUCH if there is no such element x', too large", k -> k.dihedral(5),
+        s.refused("6: 'NO_SUCH if there is no such element x, y or product', x too large", k -> k.dihedral(5),
                 NO_SUCH, Sentences.above(4), (k, x) -> k.setProduct(x, 0, 1));
-        s.refused("6: 'NO_SUCH if there is no such element y', too small", k -> k.dihedral(5),
+        s.refused("6: 'NO_SUCH if there is no such element x, y or product', y too small", k -> k.dihedral(5),
                 NO_SUCH, Sentences.below(0), (k, y) -> k.setProduct(1, y, 0));
-        s.refused("6: 'NO_SUCH if there is no such element y', too large", k -> k.dihedral(5),
+        s.refused("6: 'NO_SUCH if there is no such element x, y or product', y too large", k -> k.dihedral(5),
                 NO_SUCH, Sentences.above(4), (k, y) -> k.setProduct(1, y, 0));
-        s.refused("6: 'NO_SUCH if there is no such element product', too small", k -> k.dihedral(5),
+        s.refused("6: 'NO_SUCH if there is no such element x, y or product', the product too small", k -> k.dihedral(5),
                 NO_SUCH, Sentences.below(0), (k, product) -> k.setProduct(1, 0, product));
-        s.refused("6: 'NO_SUCH if there is no such element product', too large", k -> k.dihedral(5),
+        s.refused("6: 'NO_SUCH if there is no such element x, y or product', the product too large", k -> k.dihedral(5),
                 NO_SUCH, Sentences.above(4), (k, product) -> k.setProduct(1, 0, product));
-        s.refused("6: 'NO_SUCH if there is no such element', one of an earlier greater table",
+        s.refused("6: 'NO_SUCH if there is no such element x, y or product', one of an earlier greater table",
                 k -> { k.trivial(6); k.dihedral(3); },
                 NO_SUCH, new int[] {3, 4, 5}, (k, x) -> k.setProduct(x, x, x));
     }
@@ -381,7 +381,7 @@ public final class TableBoundsTest {
             k.undo();
             s.due("size() after undo()", k.size(), 1);
         });
-        s.test("9: 'x: an element; y: an element', the lowest and the highest", () -> {
+        s.test("9: 'x: an element' and 'y: an element', the lowest and the highest", () -> {
             KnotColours k = with("543210 000000 111111 222222 333333 012345");
             s.due("product(0, 0)", k.product(0, 0), 5);
             s.due("product(0, 5)", k.product(0, 5), 0);
@@ -420,13 +420,13 @@ public final class TableBoundsTest {
             s.due("quotient(5, 0)", k.quotient(5, 0), NONE);
             s.due("quotient(0, 5)", k.quotient(0, 5), NONE);
         });
-        s.refused("10: 'NO_SUCH if there is no such element x', too small", k -> k.linear(5, 2),
+        s.refused("10: 'NO_SUCH if there is no such element x or y', x too small", k -> k.linear(5, 2),
                 NO_SUCH, Sentences.below(0), (k, x) -> k.quotient(x, 4));
-        s.refused("10: 'NO_SUCH if there is no such element x', too large", k -> k.linear(5, 2),
+        s.refused("10: 'NO_SUCH if there is no such element x or y', x too large", k -> k.linear(5, 2),
                 NO_SUCH, Sentences.above(4), (k, x) -> k.quotient(x, 0));
-        s.refused("10: 'NO_SUCH if there is no such element y', too small", k -> k.linear(5, 2),
+        s.refused("10: 'NO_SUCH if there is no such element x or y', y too small", k -> k.linear(5, 2),
                 NO_SUCH, Sentences.below(0), (k, y) -> k.quotient(4, y));
-        s.refused("10: 'NO_SUCH if there is no such element y', too large", k -> k.linear(5, 2),
+        s.refused("10: 'NO_SUCH if there is no such element x or y', y too large", k -> k.linear(5, 2),
                 NO_SUCH, Sentences.above(4), (k, y) -> k.quotient(0, y));
     }
 
@@ -541,15 +541,15 @@ public final class TableBoundsTest {
         });
         s.test("terms: 'the smallest closed set that contains it', without products by elements outside", () ->
             s.due("closure(3)", with("0023 1132 2222 3333").closure(3), 3));
-        s.refused("14: 'BAD_VALUE if set is negative'", k -> k.dihedral(6),
+        s.refused("14: 'BAD_VALUE if set is negative or contains a number that is not an element', negative", k -> k.dihedral(6),
                 BAD_VALUE, Sentences.below(0), KnotColours::closure);
-        s.refused("14: 'BAD_VALUE if set contains a number that is not an element', that number alone", k -> k.dihedral(3),
+        s.refused("14: 'BAD_VALUE if set is negative or contains a number that is not an element', that number alone", k -> k.dihedral(3),
                 BAD_VALUE, new int[] {8, 16, 32, 64, 1 << 30}, KnotColours::closure);
-        s.refused("14: 'BAD_VALUE if set contains a number that is not an element', beside elements", k -> k.dihedral(3),
+        s.refused("14: 'BAD_VALUE if set is negative or contains a number that is not an element', beside elements", k -> k.dihedral(3),
                 BAD_VALUE, new int[] {9, 15, 63, 8 + 2, 65536 + 7, Integer.MAX_VALUE}, KnotColours::closure);
-        s.refused("14: 'BAD_VALUE if set contains a number that is not an element', of six elements", k -> k.dihedral(6),
+        s.refused("14: 'BAD_VALUE if set is negative or contains a number that is not an element', of six elements", k -> k.dihedral(6),
                 BAD_VALUE, new int[] {64, 65, 127, 128, 256, Integer.MAX_VALUE}, KnotColours::closure);
-        s.refused("14: 'BAD_VALUE if set contains a number that is not an element', of one element",
+        s.refused("14: 'BAD_VALUE if set is negative or contains a number that is not an element', of one element",
                 k -> k.trivial(1), BAD_VALUE, new int[] {2, 3, 32}, KnotColours::closure);
     }
 

@@ -64,7 +64,7 @@ public final class TextBoundsTest {
             k.clearText();
             s.due("type('0')", k.type('0'), 1);
         });
-        s.test("37 is not 'Undoable': type saves no state", () -> {
+        s.test("37: not marked as Undoable: type saves no state", () -> {
             KnotColours k = Sentences.withText(TEN);
             s.due("undo()", k.undo(), NOT_POSSIBLE);
             s.due("clearText()", k.clearText(), 69);
@@ -100,7 +100,7 @@ public final class TextBoundsTest {
             Sentences.type(k, "0,0,0+");
             s.due("syntaxError() of another", k.syntaxError(), NONE);
         });
-        s.test("38 is not 'Undoable': clearText saves no state", () -> {
+        s.test("38: not marked as Undoable: clearText saves no state", () -> {
             KnotColours k = Sentences.withText("0");
             k.clearText();
             s.due("undo()", k.undo(), NOT_POSSIBLE);
